@@ -127,6 +127,18 @@ public final class ClerksTest {
         Check.due("meanWait", window.meanWait(), 6.0 / 3.0);
         Check.due("answeredShare", window.answeredShare(), 3.0f / 4.0f);
         thirds();
+        firstWaited();
+    }
+
+    private static void firstWaited() {
+        // Night 4 is the first with a light of 4; the cost is 5.
+        MoonComplaintWindow window = Check.loaded("moon 14 0 7;clouds 0;clerk 9 99;complaint 1 face 3;complaint 2 face 4;");
+        window.endNights(3);
+        window.fileComplaint(3, 3, 1);
+        window.endNights(2);
+        Check.due("meanWait", window.meanWait(), 9.0 / 3.0);
+        Check.due("comfort", window.comfort(), 8);
+        Check.due("answeredShare", window.answeredShare(), 1.0f);
     }
 
     private static void thirds() {

@@ -172,6 +172,11 @@ public final class ComplaintsTest {
         window.giveUp(4);
         Check.dueThrow("oldest of none", NoSuchElementException.class, () -> window.oldest());
         Check.dueThrow("angriest of none", NoSuchElementException.class, () -> window.angriest());
+        for (int sort = 0; sort < 4; sort++) {
+            window.fileComplaint(50, sort, 1 + sort);
+            Check.due("angriest of sort " + sort, window.angriest(), 5 + sort);
+            Check.due("oldest", window.oldest(), 5);
+        }
         MoonComplaintWindow none = Check.loaded("moon 8 2 6;clouds 0;");
         Check.dueThrow("oldest of none", NoSuchElementException.class, () -> none.oldest());
         Check.dueThrow("angriest of none", NoSuchElementException.class, () -> none.angriest());

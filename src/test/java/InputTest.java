@@ -79,6 +79,13 @@ public final class InputTest {
         Check.due("clerks", window.clerkCount(), 5);
         Check.due("last person", window.personOf(23), 23);
         Check.due("last oil", window.oilOf(4), 4);
+        Check.put(window, HEAD + "complaint 1 glare 2;");
+        Check.due("load of less", window.load(), 1);
+        Check.due("clerks", window.clerkCount(), 0);
+        Check.due("nothing is left of the longer text", window.complaintsOf(1), 1);
+        Check.due("angriest", window.angriest(), 0);
+        Check.due("waitingCount", window.waitingCount(), 1);
+        Check.due("fileComplaint", window.fileComplaint(2, 2, 1), 1);
     }
 
     private static void loadReplacesEverythingElse() {
@@ -169,9 +176,22 @@ public final class InputTest {
     private static void errorsOfTheGrammar() {
         bad("", 0);
         bad("  \n", 3);
+        bad(" ".repeat(600), 600);
+        bad(" ".repeat(596) + "moon", 600);
+        bad(" ".repeat(593) + "moon 14", 600);
+        bad(" ".repeat(592) + "moon 14;", 599);
+        bad("m".repeat(600), 0);
+        bad("1".repeat(600), 0);
+        good(" ".repeat(580) + HEAD, "night 0 limits 8 2 6 clouds 0 used 0");
+        good(HEAD + "\n".repeat(580), "night 0 limits 8 2 6 clouds 0 used 0");
         bad("moo 8 2 6;", 0);
         bad("moons 8 2 6;", 0);
         bad("noon 8 2 6;", 0);
+        bad("moonz 8 2 6;", 0);
+        bad("moona 8 2 6;", 0);
+        bad("amoon 8 2 6;", 0);
+        bad("zmoon 8 2 6;", 0);
+        bad("moonclouds", 0);
         bad("8", 0);
         bad(";", 0);
         bad("moon", 4);

@@ -9,6 +9,7 @@ public final class NightsTest {
         oilIsLookedAtForEach();
         skills();
         angerAndAge();
+        fullOffice();
         Check.end("NightsTest");
     }
 
@@ -122,6 +123,35 @@ public final class NightsTest {
                     + "complaint 1 tide 1;complaint 2 tide 2;complaint 3 tide 3;complaint 4 tide 4;complaint 5 tide 5;");
             Check.due("skill " + skill, window.endNights(1), due[skill - 1]);
         }
+    }
+
+    /** As many complaints, clerks and clouds as there may be. */
+    private static void fullOffice() {
+        StringBuilder text = new StringBuilder("moon 14 0 7;clouds 9 9 9 9 9 9 9 9 9 9;");
+        for (int i = 0; i < 5; i++) {
+            text.append("clerk 9 99;");
+        }
+        for (int i = 0; i < 24; i++) {
+            text.append("complaint ").append(i).append("gloom 1;");
+        }
+        MoonComplaintWindow window = Check.loaded(text.toString());
+        Check.due("oldest", window.oldest(), 0);
+        Check.due("angriest", window.angriest(), 0);
+        Check.due("darkestClerk", window.darkestClerk(), 0);
+        Check.dueThrow("waitingOf", java.util.NoSuchElementException.class, () -> window.waitingOf(99, 0));
+        Check.due("complaintsOf", window.complaintsOf(23), 1);
+        Check.due("nightsToClose", window.nightsToClose(23), 2);
+        Check.due("answersTonight", window.answersTonight(), 20);
+        Check.due("endNights", window.endNights(1), 20);
+        Check.due("answeredBy", window.answeredBy(4), 4);
+        Check.due("comfort", window.comfort(), 20);
+        Check.due("meanWait", window.meanWait(), 0.0);
+        Check.due("waitingCount", window.waitingCount(), 4);
+        Check.due("endNights", window.endNights(1), 4);
+        Check.due("meanWait", window.meanWait(), 4.0 / 24.0);
+        Check.due("oilUsed", window.oilUsed(), 144);
+        Check.due("undo", window.undo(), 1);
+        Check.due("waitingCount", window.waitingCount(), 4);
     }
 
     private static void angerAndAge() {

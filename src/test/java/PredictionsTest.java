@@ -7,6 +7,7 @@ public final class PredictionsTest {
         wrongComplaints();
         changeNothing();
         tonight();
+        eachOnItsOwn();
         dismissedAndGivenUp();
         beyondTheLastNight();
         asItComesTrue();
@@ -72,6 +73,19 @@ public final class PredictionsTest {
         Check.due("nothing left that is justified", window.answersTonight(), 0);
         Check.due("without complaints", Check.loaded("moon 14 0 7;clouds 0;clerk 9 99;").answersTonight(), 0);
         Check.due("without clerks", Check.loaded("moon 14 0 7;clouds 0;complaint 1 tide 1;").answersTonight(), 0);
+    }
+
+    /** No prediction lives on what an earlier one worked out. */
+    private static void eachOnItsOwn() {
+        Check.due("willBeAnswered 3", new MoonComplaintWindow().willBeAnswered(3), true);
+        MoonComplaintWindow window = new MoonComplaintWindow();
+        Check.due("willBeAnswered 3", window.willBeAnswered(3), true);
+        window.setCloud(0, 3);
+        Check.due("willBeAnswered 3 under clouds", window.willBeAnswered(3), false);
+        window.setCloud(0, 0);
+        Check.due("willBeAnswered 3", window.willBeAnswered(3), true);
+        Check.due("answersTonight", window.answersTonight(), 2);
+        Check.due("nightsToClose 3", window.nightsToClose(3), 7);
     }
 
     private static void dismissedAndGivenUp() {

@@ -143,6 +143,26 @@ public final class UndoTest {
         Check.due("restoreSnapshot", window.restoreSnapshot(1), 0);
         Check.due("cloud", window.cloudOf(0), 9);
         Check.due("givenUpCount", window.givenUpCount(), 1);
+        closedAgain();
+    }
+
+    /** What was closed in the snapshot is closed again as it was, whatever became of it meanwhile. */
+    private static void closedAgain() {
+        MoonComplaintWindow window = new MoonComplaintWindow();
+        window.endNights(2);
+        window.giveUp(0);
+        window.saveSnapshot(0);
+        String saved = Check.state(window);
+        window.undo();
+        window.endNights(20);
+        Check.due("answered meanwhile", window.isAnswered(0), true);
+        window.restoreSnapshot(0);
+        Check.due("state", Check.state(window), saved);
+        Check.due("closedIn", window.closedIn(0), 2);
+        Check.dueThrow("clerkOf", NoSuchElementException.class, () -> window.clerkOf(0));
+        window.undo();
+        Check.due("closedIn", window.closedIn(0), 9);
+        Check.due("clerkOf", window.clerkOf(0), 0);
     }
 
     private static void wrongSlots() {
