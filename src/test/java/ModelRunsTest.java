@@ -91,6 +91,9 @@ public final class ModelRunsTest {
     }
 
     private void call(Method method, Integer... arguments) {
+        if (calls == CALLS) {
+            return;
+        }
         calls++;
         String due = answer(model, method, arguments);
         String got = answer(window, method, arguments);

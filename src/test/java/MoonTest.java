@@ -39,6 +39,7 @@ public final class MoonTest {
     private static void lightTideCloud() {
         MoonComplaintWindow window = new MoonComplaintWindow();
         for (int night = 0; night <= 2000; night++) {
+            window = night % 100 == 0 ? new MoonComplaintWindow() : window;
             int light = LIGHTS[night % 28];
             int cloud = CLOUDS[night % 3];
             Check.due("lightOf " + night, window.lightOf(night), light);
@@ -77,6 +78,7 @@ public final class MoonTest {
     private static void justified() {
         MoonComplaintWindow window = new MoonComplaintWindow();
         for (int night = 0; night <= 2000; night++) {
+            window = night % 100 == 0 ? new MoonComplaintWindow() : window;
             int light = LIGHTS[night % 28];
             int cloud = CLOUDS[night % 3];
             int visible = light * (10 - cloud) / 10;

@@ -3,7 +3,7 @@ import java.lang.management.ManagementFactory;
 
 /** All calls of one run share one room, so no call makes objects; the constructor makes all rows. */
 public final class RoomTest {
-    private static final int CALLS = 512;
+    private static final int TIMES = 128;
 
     private interface Call {
         void make(MoonComplaintWindow window, int number);
@@ -49,11 +49,11 @@ public final class RoomTest {
     private static void due(ThreadMXBean threads, String what, Call call) {
         MoonComplaintWindow window = new MoonComplaintWindow();
         long before = threads.getCurrentThreadAllocatedBytes();
-        for (int i = 0; i < CALLS; i++) {
+        for (int i = 0; i < TIMES; i++) {
             call.make(window, i);
         }
         long made = threads.getCurrentThreadAllocatedBytes() - before;
         // What is left of it is the machine's own, for the first calls of a lambda.
-        Check.due(CALLS + " times " + what + " need " + made + " bytes", made < 20000, true);
+        Check.due(TIMES + " times " + what + " need " + made + " bytes", made < 20000, true);
     }
 }
