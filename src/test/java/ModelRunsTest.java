@@ -4,15 +4,23 @@ import java.lang.reflect.Modifier;
 import java.nio.charset.StandardCharsets;
 import java.util.ArrayList;
 import java.util.Arrays;
+import java.util.Collections;
 import java.util.Comparator;
+import java.util.LinkedHashSet;
 import java.util.List;
 import java.util.Random;
 
-/** All promises: many runs of calls, drawn by fixed seeds, on a window and on the model, whose answers must agree. */
+/**
+ * All promises: many runs of calls, drawn by fixed seeds, on a window and on the model, whose answers must agree. Runs of
+ * the first kind draw every call alike; in those of the second kind changes, texts, undoing, snapshots and nights follow
+ * each other, and then everything is asked that can be.
+ */
 public final class ModelRunsTest {
-    private static final int RUNS = 1200;
+    private static final int RUNS = 2400;
     private static final int CALLS = 512;
     private static final String[] SORTS = {"glare", "gloom", "tide", "face"};
+    private static final String[] STEPS = {"fileComplaint", "fileComplaint", "fileComplaint", "addClerk",
+        "refill", "refill", "refill", "setCloud", "setGlareLimit", "setGloomLimit", "setTideLimit", "writeComplaints"};
     private static final String SPOILERS = " \n;09a:z\u0000\u00ffmX/{`,\t";
 
     private final Random random;
@@ -32,7 +40,11 @@ public final class ModelRunsTest {
         List<Method> methods = methods();
         for (int run = 1; run <= RUNS; run++) {
             ModelRunsTest test = new ModelRunsTest(run);
-            test.go(methods);
+            if (run % 2 == 0) {
+                test.go(methods);
+            } else {
+                test.changeAndAsk(methods);
+            }
             Check.due("run " + run, test.agree ? "agrees" : test.told.toString(), "agrees");
             if (!test.agree) {
                 break;
@@ -71,6 +83,77 @@ public final class ModelRunsTest {
                 call(method, arguments(method));
             }
         }
+    }
+
+    private void changeAndAsk(List<Method> methods) {
+        int past = random.nextInt(CALLS);
+        if (random.nextBoolean()) {
+            loadText(methods);
+        }
+        // One run in four comes near the last night.
+        for (int i = random.nextInt(4) == 0 ? 15 : 0; i > 0; i--) {
+            call(find(methods, "endNights"), 60);
+        }
+        while (calls < past && agree) {
+            switch (random.nextInt(20)) {
+                case 0, 1, 2, 3 -> call(find(methods, "undo"));
+                case 4 -> call(find(methods, "saveSnapshot"), random.nextInt(2));
+                case 5 -> call(find(methods, "restoreSnapshot"), random.nextInt(2));
+                case 6, 7 -> call(find(methods, "endNights"), between(1, 30));
+                case 8, 9 -> call(find(methods, "endNights"), between(1, 7));
+                case 10 -> loadSometimes(methods);
+                case 11 -> call(find(methods, "giveUp"), random.nextInt(24));
+                default -> {
+                    Method change = find(methods, STEPS[random.nextInt(STEPS.length)]);
+                    call(change, arguments(change));
+                }
+            }
+        }
+        askAll(methods);
+    }
+
+    /** Texts take many calls and empty the past, so that they are drawn less often than the rest. */
+    private void loadSometimes(List<Method> methods) {
+        if (random.nextInt(6) == 0) {
+            loadText(methods);
+        } else if (random.nextBoolean()) {
+            call(find(methods, "load"));
+        }
+    }
+
+    /** Every question once, in a drawn order, and now and then all undoing that is left, up to the last of the calls. */
+    private void askAll(List<Method> methods) {
+        List<Runnable> questions = new ArrayList<>();
+        for (Method method : new LinkedHashSet<>(methods)) {
+            if (method.getParameterCount() == 0 && !method.getName().matches("load|undo")) {
+                questions.add(() -> call(method));
+            }
+            for (int i = 0; i < numbersFor(method.getName()); i++) {
+                int number = i;
+                questions.add(() -> call(method, number));
+            }
+        }
+        Collections.shuffle(questions, random);
+        if (random.nextInt(3) == 0) {
+            questions.addAll(0, Collections.nCopies(9, () -> call(find(methods, "undo"))));
+        }
+        for (int i = 0; i < questions.size() && agree; i++) {
+            questions.get(i).run();
+        }
+    }
+
+    /** How many complaints, clerks, clouds or sorts this call can be asked about. */
+    private int numbersFor(String name) {
+        if (name.matches("(person|sort|anger|clerk)Of|(filed|closed)In|is(Waiting|Answered|Dismissed|GivenUp)|nightsToClose|will.*")) {
+            return model.complaintCount();
+        }
+        if (name.matches("(skill|oil)Of|answeredBy")) {
+            return model.clerkCount();
+        }
+        if (name.equals("cloudOf")) {
+            return model.cloudCount();
+        }
+        return name.matches("nextJustified|justifiedNights") ? 4 : 0;
     }
 
     private void loadText(List<Method> methods) {

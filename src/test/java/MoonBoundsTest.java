@@ -26,6 +26,7 @@ public final class MoonBoundsTest {
         nextJustifiedLooksAt280Nights();
         justifiedNightsAre28();
         likeliestIsTheLowestOfSeveral();
+        likeliestLooksFromThePresentNightOn();
         Check.end("MoonBoundsTest");
     }
 
@@ -160,6 +161,11 @@ public final class MoonBoundsTest {
             MoonComplaintWindow window = Check.loaded("moon 8 2 6;clouds " + d[1] + ";");
             Check.due("visibleLight " + d[0] + " under " + d[1], window.visibleLight(d[0]), d[2]);
         }
+        MoonComplaintWindow changed = Check.loaded(CLEAR);
+        changed.setCloud(0, 5);
+        Check.due("visibleLight behind setCloud", changed.visibleLight(14), 7);
+        changed.undo();
+        Check.due("visibleLight behind undo", changed.visibleLight(14), 14);
     }
 
     /** "`night`: 0 to 2000" of five calls, whatever the present night is. */
@@ -256,5 +262,21 @@ public final class MoonBoundsTest {
         Check.due("27 of GLARE, 28 of TIDE", Check.loaded("moon 1 0 0;clouds 0;").likeliestSort(), 2);
         Check.due("19 of GLARE, 21 of FACE", Check.loaded("moon 5 0 7;clouds 0;").likeliestSort(), 3);
         Check.due("23 of GLARE, 21 of FACE", Check.loaded("moon 3 0 7;clouds 0;").likeliestSort(), 0);
+    }
+
+    /** "the greatest justifiedNights", which count from the present night on, for each of the sorts. */
+    private static void likeliestLooksFromThePresentNightOn() {
+        // TIDE has 14 of any 28 nights; GLARE has 14 too, but 13 from the nights 4 and 5 on.
+        String glare = "moon 3 0 4;clouds 0 5 9;";
+        Check.due("GLARE has 14 in night 3", inNight(glare, 3).likeliestSort(), 0);
+        Check.due("GLARE has 13 in night 4", inNight(glare, 4).likeliestSort(), 2);
+        Check.due("GLARE has 13 in night 5", inNight(glare, 5).likeliestSort(), 2);
+        Check.due("GLARE has 14 in night 6", inNight(glare, 6).likeliestSort(), 0);
+        // GLOOM has 13 nights, but 14 from the nights 2 and 3 on.
+        String gloom = "moon 14 0 4;clouds 9 0 9;";
+        Check.due("GLOOM has 13 in night 1", inNight(gloom, 1).likeliestSort(), 2);
+        Check.due("GLOOM has 14 in night 2", inNight(gloom, 2).likeliestSort(), 1);
+        Check.due("GLOOM has 14 in night 3", inNight(gloom, 3).likeliestSort(), 1);
+        Check.due("GLOOM has 13 in night 4", inNight(gloom, 4).likeliestSort(), 2);
     }
 }

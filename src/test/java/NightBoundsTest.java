@@ -27,6 +27,7 @@ public final class NightBoundsTest {
         oilForADismissal();
         asManyAsOnePlusAThirdOfTheSkill();
         asManyDismissalsToo();
+        theClerkWhoDismissed();
         clerksWorkInTheirOrder();
         theGreatestAngerTheLowestNumber();
         angerGrowsBehindTheWork();
@@ -222,7 +223,9 @@ public final class NightBoundsTest {
             Check.due("waitingCount", more.waitingCount(), 1);
             Check.due("answeredBy", more.answeredBy(0), most);
             Check.due("oilOf", more.oilOf(0), 99 - 6 * most);
-            Check.due("just as many", clerkInNight(0, skill, 99, most).endNights(1), most);
+            MoonComplaintWindow just = clerkInNight(0, skill, 99, most);
+            Check.due("just as many", just.endNights(1), most);
+            Check.due("answeredBy, the last complaint too", just.answeredBy(0), most);
         }
     }
 
@@ -238,6 +241,19 @@ public final class NightBoundsTest {
         mixed.fileComplaint(5, 2, 1);
         Check.due("one answer", mixed.endNights(1), 1);
         Check.due("and one dismissal", mixed.dismissedCount(), 1);
+    }
+
+    /** "the clerk who answered or dismissed it" */
+    private static void theClerkWhoDismissed() {
+        MoonComplaintWindow window = inNight(DARK + "clerk 9 5;clerk 1 6;clerk 3 12;"
+                + "complaint 1 glare 1;complaint 2 glare 1;complaint 3 glare 1;", 15);
+        Check.due("dismissedCount", window.dismissedCount(), 3);
+        Check.due("clerkOf 0: the first clerk has too little oil", window.clerkOf(0), 1);
+        Check.due("clerkOf 1", window.clerkOf(1), 2);
+        Check.due("clerkOf 2", window.clerkOf(2), 2);
+        MoonComplaintWindow fifth = inNight(DARK + "clerk 1 0;clerk 1 0;clerk 1 0;clerk 1 0;clerk 1 6;"
+                + "complaint 1 glare 1;", 15);
+        Check.due("clerkOf: the fifth", fifth.clerkOf(0), 4);
     }
 
     /** "the clerks work in the order of their numbers" */

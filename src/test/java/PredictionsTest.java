@@ -8,6 +8,7 @@ public final class PredictionsTest {
         changeNothing();
         tonight();
         eachOnItsOwn();
+        behindClosedOnes();
         dismissedAndGivenUp();
         beyondTheLastNight();
         asItComesTrue();
@@ -86,6 +87,23 @@ public final class PredictionsTest {
         Check.due("willBeAnswered 3", window.willBeAnswered(3), true);
         Check.due("answersTonight", window.answersTonight(), 2);
         Check.due("nightsToClose 3", window.nightsToClose(3), 7);
+    }
+
+    /** Each is told until it is closed itself, whichever of the others are closed before or after it. */
+    private static void behindClosedOnes() {
+        MoonComplaintWindow window = new MoonComplaintWindow();
+        window.giveUp(0);
+        duePrediction(window, 1, 1, true);
+        duePrediction(window, 3, 7, true);
+        window.fileComplaint(50, 0, 1);
+        duePrediction(window, 4, 10, true);
+        // One a night, the angriest first; the full moon, which GLARE waits for, comes in night 14.
+        MoonComplaintWindow slow = Check.loaded("moon 14 3 7;clouds 0;clerk 1 99;"
+                + "complaint 1 gloom 9;complaint 2 gloom 8;complaint 3 gloom 7;complaint 4 gloom 6;complaint 5 glare 1;");
+        for (int complaint = 0; complaint < 4; complaint++) {
+            duePrediction(slow, complaint, complaint + 1, true);
+        }
+        duePrediction(slow, 4, 15, true);
     }
 
     private static void dismissedAndGivenUp() {

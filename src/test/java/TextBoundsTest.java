@@ -32,6 +32,7 @@ public final class TextBoundsTest {
         bytesBetweenAWordAndANumber();
         bytesBetweenTwoNumbers();
         wordsAreMaximal();
+        eachLetterCounts();
         numbersOfOneAndTwoDigits();
         numbersOfThreeDigits();
         limitsOutOfRange();
@@ -103,6 +104,15 @@ public final class TextBoundsTest {
             window.append(words[0], words[1], words[2], words[3], words[4]);
             Check.dueThrow("load", WRONG_ARGUMENT, () -> window.load());
             Check.due("the byte " + place, window.errorOffset(), place);
+        }
+        for (int place = 0; place < 20; place++) {
+            byte[] spoilt = " ".repeat(20).getBytes(StandardCharsets.ISO_8859_1);
+            Arrays.fill(spoilt, place, 20, (byte) 255);
+            int[] words = Check.words(spoilt);
+            MoonComplaintWindow window = new MoonComplaintWindow();
+            window.append(words[0], words[1], words[2], words[3], words[4]);
+            Check.dueThrow("load", WRONG_ARGUMENT, () -> window.load());
+            Check.due("the bytes from " + place + " on", window.errorOffset(), place);
         }
         int[] words = Check.words(bytes);
         MoonComplaintWindow window = new MoonComplaintWindow();
@@ -334,6 +344,26 @@ public final class TextBoundsTest {
         bad(HEAD + "complaint 1 glaregloom 1;", 32);
         good(HEAD + "complaint 1face 1;", HEAD_STATE + " complaint 1 3 1 0 w");
         good(HEAD + "complaint 1gloom 1;", HEAD_STATE + " complaint 1 1 1 0 w");
+    }
+
+    /** A word with one other letter is another word: each letter of each word. */
+    private static void eachLetterCounts() {
+        eachLetterOf("", "moon", " 8 2 6;clouds 0;");
+        eachLetterOf("moon 8 2 6;", "clouds", " 0;");
+        eachLetterOf(HEAD, "clerk", " 3 20;");
+        eachLetterOf(HEAD, "complaint", " 4 glare 5;");
+        for (String sort : List.of("glare", "gloom", "tide", "face")) {
+            eachLetterOf(HEAD + "complaint 4 ", sort, " 5;");
+        }
+    }
+
+    private static void eachLetterOf(String before, String word, String after) {
+        String answer = Refused.answer(busy(before + word + after), w -> w.load());
+        Check.due("load with \"" + word + "\"", answer, (before + word).contains("complaint") ? "1" : "0");
+        for (int i = 0; i < word.length(); i++) {
+            char other = word.charAt(i) == 'z' ? 'a' : (char) (word.charAt(i) + 1);
+            bad(before + word.substring(0, i) + other + word.substring(i + 1) + after, before.length());
+        }
     }
 
     /** "A maximal sequence of digits is a number of 1 to 2 digits." */
